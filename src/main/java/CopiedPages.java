@@ -47,15 +47,15 @@ public final class CopiedPages {
     private static final int ROOM = 6;
     private static final int NODE_FULL = 4;
     private static final int SPLIT_STAYS = 3;
-    /** Above what 46 pages and twelve changes can grow: a deeper tree would not fit on the disk. */
+    /** A tree of 46 pages has at most 23 levels (its root has two children), and twelve changes add few. */
     private static final int DEEPEST = 40;
-    private static final int NODES = PAGES + MOST_CHANGES * DEEPEST;
+    /**
+     * Count 1 for each node of three and 2 for each of four: 92 at most on the disk. A change adds 1 at most and
+     * a split takes 1 at least, so twelve changes make no more than 104 splits, and few new roots.
+     */
+    private static final int NODES = PAGES + 128;
 
     private static final int FULL = -1;
-
-    private static final int LAW_RISK = 0;
-    private static final int LAW_SPARE = 1;
-    private static final int LAW_COST = 2;
 
     private static final int FACTS = 7;
     private static final int FACT_PAGE = 0;
@@ -68,23 +68,41 @@ public final class CopiedPages {
     private static final int SLIP_WRITE = 2;
     private static final int HEAD_WRITE = 3;
 
-    /** Codes of the law below PUSH_FACT push themselves: numbers have three digits at most. */
-    private static final int PUSH_FACT = 1000;
-    private static final int ADD = 2000;
-    private static final int LESS = 2001;
-    private static final int MORE = 2002;
-    private static final int AND = 2003;
-    private static final int OR = 2004;
-    private static final int NOT = 2005;
-    private static final int IS_HEAD = 2006;
-    private static final int IS_SLIP = 2007;
-    private static final int IS_EVEN = 2008;
-    private static final int STACK = 64;
-
     private static final int END = 0;
     private static final int WORD = 1;
     private static final int DIGITS = 2;
     private static final int SIGN = 3;
+
+    /** All words of both kinds of texts; the constants below tell where they stand in it. */
+    private static final String WORDS =
+            "put drop risk spare cost if or and not head slip even page kind wear rows version readers tick";
+    private static final int PUT_WORD = 0;
+    private static final int DROP_WORD = 1;
+    private static final int RISK_WORD = 2;
+    private static final int SPARE_WORD = 3;
+    private static final int COST_WORD = 4;
+    private static final int IF_WORD = 5;
+    private static final int OR_WORD = 6;
+    private static final int AND_WORD = 7;
+    private static final int NOT_WORD = 8;
+    private static final int HEAD_WORD = 9;
+    private static final int EVEN_WORD = 11;
+    private static final int PAGE_WORD = 12;
+    private static final int TICK_WORD = 18;
+
+    /** Codes of the law below PUSH_FACT push themselves: numbers have three digits at most. */
+    private static final int PUSH_FACT = 1000;
+    private static final int IS_HEAD = 2000;
+    private static final int IS_SLIP = 2001;
+    private static final int IS_EVEN = 2002;
+    private static final int NOT = 3000;
+    private static final int ADD = 4000;
+    private static final int LESS = 4001;
+    private static final int MORE = 4002;
+    private static final int AND = 4003;
+    private static final int OR = 4004;
+    /** Six levels of ( hold two truths each, and a comparison holds two sums and a part. */
+    private static final int STACK = 32;
 
     private final Tape tape = new Tape();
     private final State now = new State();
@@ -94,8 +112,8 @@ public final class CopiedPages {
     private final Law theLaw = new Law();
     private final Law lawRead = new Law();
     private final Law lawKept = new Law();
-    private final LawText lawText = new LawText();
-    private final WorkText workText = new WorkText();
+    private final LawText lawText = new LawText(tape, lawRead);
+    private final WorkText workText = new WorkText(tape);
     private final History history = new History();
     private final Plan plan = new Plan();
     private final FreeList free = new FreeList();
@@ -135,9 +153,7 @@ public final class CopiedPages {
     }
 
     public int work() throws IllegalArgumentException, UnsupportedOperationException, IllegalStateException {
-        boolean right = workText.parse(tape);
-        tape.length = 0;
-        if (!right) {
+        if (!workText.parse()) {
             throw new IllegalArgumentException();
         }
         if (now.texts >= MOST_TEXTS) {
@@ -155,9 +171,7 @@ public final class CopiedPages {
     }
 
     public int law() throws IllegalArgumentException {
-        boolean right = lawText.parse(tape, lawRead);
-        tape.length = 0;
-        if (!right) {
+        if (!lawText.parse()) {
             throw new IllegalArgumentException();
         }
         theLaw.copyFrom(lawRead);
@@ -1166,16 +1180,16 @@ public final class CopiedPages {
         }
     }
 
-    /** Bytes that were fed, and the things of a text that are met in them one by one. */
+    /** Bytes that were fed, and the things of a text (words, numbers, signs) that they make up. */
     private static final class Tape {
         final int[] bytes = new int[MOST_BYTES];
         int length = 0;
-        /** The first byte behind the thing that is met. */
-        int at = 0;
-        int begin = 0;
-        int thing = END;
-        /** Of digits what they tell; NONE, if they are more than three. */
-        int number = NONE;
+        /** The last thing is the END, so there may be one more than bytes. */
+        final int[] things = new int[MOST_BYTES + 1];
+        final int[] begins = new int[MOST_BYTES + 1];
+        /** Of a word which one it is, of digits their number, of a sign its byte; NONE, if it cannot be. */
+        final int[] tells = new int[MOST_BYTES + 1];
+        int met = 0;
         int wrong = NONE;
 
         void append(int n) {
@@ -1185,100 +1199,138 @@ public final class CopiedPages {
             }
         }
 
-        void rewind() {
-            at = 0;
+        /** Uses the bytes up. */
+        void scan() {
+            int count = 0;
+            int at = endOfRun(0, ' ', ' ');
+            while (at < length) {
+                begins[count] = at;
+                int behind = scanThing(count, at);
+                at = endOfRun(behind, ' ', ' ');
+                count++;
+            }
+            things[count] = END;
+            begins[count] = length;
+            tells[count] = NONE;
+            met = 0;
             wrong = NONE;
-            step();
+            length = 0;
         }
 
-        void step() {
-            while (at < length && bytes[at] == ' ') {
+        /** Answers where the thing ends, at least one byte on. */
+        private int scanThing(int count, int at) {
+            int behind = endOfRun(at, 'a', 'z');
+            if (behind > at) {
+                things[count] = WORD;
+                tells[count] = wordAt(at, behind);
+                return behind;
+            }
+            behind = endOfRun(at, '0', '9');
+            if (behind > at) {
+                things[count] = DIGITS;
+                tells[count] = behind - at > 3 ? NONE : numberAt(at, behind);
+                return behind;
+            }
+            things[count] = SIGN;
+            tells[count] = bytes[at];
+            return at + 1;
+        }
+
+        private int endOfRun(int from, int least, int most) {
+            int at = from;
+            while (at < length && bytes[at] >= least && bytes[at] <= most) {
                 at++;
             }
-            begin = at;
-            number = NONE;
-            if (at >= length) {
-                thing = END;
-            } else if (isAmong('a', 'z')) {
-                thing = WORD;
-                while (isAmong('a', 'z')) {
-                    at++;
-                }
-            } else if (isAmong('0', '9')) {
-                thing = DIGITS;
-                readDigits();
-            } else {
-                thing = SIGN;
-                at++;
-            }
+            return at;
         }
 
-        private boolean isAmong(int least, int most) {
-            return at < length && bytes[at] >= least && bytes[at] <= most;
-        }
-
-        private void readDigits() {
+        private int numberAt(int from, int to) {
             int n = 0;
-            while (isAmong('0', '9')) {
-                if (at - begin < 3) {
-                    n = 10 * n + bytes[at] - '0';
-                }
-                at++;
+            for (int at = from; at < to; at++) {
+                n = 10 * n + bytes[at] - '0';
             }
-            number = at - begin > 3 ? NONE : n;
+            return n;
         }
 
-        boolean isWord(String word) {
-            if (thing != WORD || at - begin != word.length()) {
-                return false;
+        private int wordAt(int from, int to) {
+            int word = 0;
+            int begin = 0;
+            for (int i = 0; i <= WORDS.length(); i++) {
+                if (i == WORDS.length() || WORDS.charAt(i) == ' ') {
+                    if (i - begin == to - from && isSame(from, begin, i - begin)) {
+                        return word;
+                    }
+                    word++;
+                    begin = i + 1;
+                }
             }
-            for (int i = 0; i < word.length() && begin + i < MOST_BYTES; i++) {
-                if (bytes[begin + i] != word.charAt(i)) {
+            return NONE;
+        }
+
+        private boolean isSame(int from, int begin, int letters) {
+            for (int i = 0; i < letters; i++) {
+                if (bytes[from + i] != WORDS.charAt(begin + i)) {
                     return false;
                 }
             }
             return true;
         }
 
-        boolean isSign(char sign) {
-            return thing == SIGN && begin < MOST_BYTES && bytes[begin] == sign;
+        boolean is(int thing, int told) {
+            return things[met] == thing && tells[met] == told;
         }
 
-        boolean isNumber(int most) {
-            return thing == DIGITS && number != NONE && number <= most;
+        boolean isWithin(int thing, int least, int most) {
+            return things[met] == thing && tells[met] >= least && tells[met] <= most;
         }
 
-        /** The thing that is met cannot stand there; at the end of the text its begin is the text's length. */
+        int told() {
+            return tells[met];
+        }
+
+        /** Behind the END nothing is met. */
+        void step() {
+            if (things[met] != END && met < MOST_BYTES) {
+                met++;
+            }
+        }
+
+        /** The thing that is met cannot stand there; the begin of the END is the text's length. */
         boolean refuse() {
-            wrong = begin;
+            wrong = begins[met];
             return false;
         }
     }
 
     /** What a text of work tells; nothing of it is done here, since a wrong text must leave nothing. */
     private static final class WorkText {
+        private final Tape tape;
         final int[] keys = new int[MOST_CHANGES];
         final int[] values = new int[MOST_CHANGES];
         int changes = 0;
         int risk = NONE;
         int tick = NONE;
 
-        boolean parse(Tape tape) {
+        WorkText(Tape from) {
+            tape = from;
+        }
+
+        boolean parse() {
             changes = 0;
             risk = NONE;
             tick = NONE;
-            tape.rewind();
-            if (tape.thing == END) {
+            tape.scan();
+            if (tape.is(END, NONE)) {
                 return true;
             }
             for (int line = 0; line < WORK_LINES; line++) {
-                if (!readLine(tape)) {
+                if (!readLine()) {
                     return false;
                 }
-                if (tape.thing == END) {
+                if (tape.is(END, NONE)) {
                     return true;
                 }
-                if (!tape.isSign(';')) {
+                if (!tape.is(SIGN, ';')) {
                     return tape.refuse();
                 }
                 tape.step();
@@ -1286,44 +1338,44 @@ public final class CopiedPages {
             return tape.refuse();
         }
 
-        private boolean readLine(Tape tape) {
-            if (tape.isWord("put")) {
-                return readChanges(tape, true);
+        private boolean readLine() {
+            if (tape.is(WORD, PUT_WORD)) {
+                return readChanges(true);
             }
-            if (tape.isWord("drop")) {
-                return readChanges(tape, false);
+            if (tape.is(WORD, DROP_WORD)) {
+                return readChanges(false);
             }
-            boolean isRisk = tape.isWord("risk");
-            if (!isRisk && !tape.isWord("tick")) {
+            boolean isRisk = tape.is(WORD, RISK_WORD);
+            if (!isRisk && !tape.is(WORD, TICK_WORD)) {
                 return tape.refuse();
             }
             tape.step();
-            if (!tape.isNumber(isRisk ? MOST_RISK : 999)) {
+            if (!tape.isWithin(DIGITS, 0, isRisk ? MOST_RISK : 999)) {
                 return tape.refuse();
             }
-            risk = isRisk ? tape.number : risk;
-            tick = isRisk ? tick : tape.number;
+            risk = isRisk ? tape.told() : risk;
+            tick = isRisk ? tick : tape.told();
             tape.step();
             return true;
         }
 
-        private boolean readChanges(Tape tape, boolean valued) {
+        private boolean readChanges(boolean valued) {
             tape.step();
             for (int i = 0; i <= MOST_CHANGES; i++) {
-                if (i > 0 && tape.thing != DIGITS) {
+                if (i > 0 && !tape.isWithin(DIGITS, NONE, 999)) {
                     return true;
                 }
-                if (changes < 0 || changes >= MOST_CHANGES || !tape.isNumber(KEYS - 1)) {
+                if (changes < 0 || changes >= MOST_CHANGES || !tape.isWithin(DIGITS, 0, KEYS - 1)) {
                     return tape.refuse();
                 }
-                keys[changes] = tape.number;
+                keys[changes] = tape.told();
                 values[changes] = REMOVED;
                 tape.step();
                 if (valued) {
-                    if (!tape.isNumber(REMOVED - 1)) {
+                    if (!tape.isWithin(DIGITS, 0, REMOVED - 1)) {
                         return tape.refuse();
                     }
-                    values[changes] = tape.number;
+                    values[changes] = tape.told();
                     tape.step();
                 }
                 changes++;
@@ -1336,19 +1388,18 @@ public final class CopiedPages {
     private static final class Law {
         /** NONE as long as there is no law. */
         int lines = NONE;
-        final int[] lineKind = new int[LAW_LINES];
+        final int[] lineWord = new int[LAW_LINES];
         final int[] lineNumber = new int[LAW_LINES];
         /** The first code behind the line's condition, which begins where the line ahead ends. */
         final int[] lineEnd = new int[LAW_LINES];
         final int[] codes = new int[MOST_BYTES];
         int codeCount = 0;
-        final int[] stack = new int[STACK];
-        int top = 0;
+        private final int[] stack = new int[STACK];
 
         void copyFrom(Law other) {
             lines = other.lines;
             codeCount = other.codeCount;
-            System.arraycopy(other.lineKind, 0, lineKind, 0, LAW_LINES);
+            System.arraycopy(other.lineWord, 0, lineWord, 0, LAW_LINES);
             System.arraycopy(other.lineNumber, 0, lineNumber, 0, LAW_LINES);
             System.arraycopy(other.lineEnd, 0, lineEnd, 0, LAW_LINES);
             System.arraycopy(other.codes, 0, codes, 0, MOST_BYTES);
@@ -1366,21 +1417,21 @@ public final class CopiedPages {
             }
         }
 
-        void addLine(int kind, int number) {
+        void addLine(int word, int number) {
             if (lines >= 0 && lines < LAW_LINES) {
-                lineKind[lines] = kind;
+                lineWord[lines] = word;
                 lineNumber[lines] = number;
                 lineEnd[lines] = codeCount;
                 lines++;
             }
         }
 
-        /** The sum of the numbers of all lines of a kind that hold for a write. */
-        int totalOf(int kind, int[] facts) {
+        /** The sum of the numbers of all lines with a word that hold for a write. */
+        int totalOf(int word, int[] facts) {
             int total = 0;
             int begin = 0;
             for (int line = 0; line < lines && line < LAW_LINES; line++) {
-                if (lineKind[line] == kind && holds(begin, lineEnd[line], facts)) {
+                if (lineWord[line] == word && holds(begin, lineEnd[line], facts)) {
                     total += lineNumber[line];
                 }
                 begin = lineEnd[line];
@@ -1392,38 +1443,33 @@ public final class CopiedPages {
             if (begin >= end) {
                 return true;
             }
-            top = 0;
+            int high = 0;
             for (int i = Math.max(0, begin); i < end && i < MOST_BYTES; i++) {
-                if (codes[i] < PUSH_FACT) {
-                    push(codes[i]);
-                } else if (codes[i] < ADD) {
-                    int fact = codes[i] - PUSH_FACT;
-                    push(fact < FACTS ? facts[fact] : 0);
-                } else {
-                    operate(codes[i], facts);
+                int code = codes[i];
+                if (code < NOT && high < STACK) {
+                    stack[high] = pushed(code, facts);
+                    high++;
+                } else if (code == NOT && high > 0) {
+                    stack[high - 1] = 1 - stack[high - 1];
+                } else if (code > NOT && high > 1) {
+                    high--;
+                    stack[high - 1] = joined(code, stack[high - 1], stack[high]);
                 }
             }
-            return pop() != 0;
+            return stack[0] != 0;
         }
 
-        private void operate(int code, int[] facts) {
+        private static int pushed(int code, int[] facts) {
             switch (code) {
-                case NOT:
-                    push(1 - pop());
-                    break;
                 case IS_HEAD:
-                    push(facts[FACT_KIND] == HEAD_WRITE ? 1 : 0);
-                    break;
+                    return facts[FACT_KIND] == HEAD_WRITE ? 1 : 0;
                 case IS_SLIP:
-                    push(facts[FACT_KIND] == SLIP_WRITE ? 1 : 0);
-                    break;
+                    return facts[FACT_KIND] == SLIP_WRITE ? 1 : 0;
                 case IS_EVEN:
-                    push(facts[FACT_PAGE] % 2 == 0 ? 1 : 0);
-                    break;
+                    return facts[FACT_PAGE] % 2 == 0 ? 1 : 0;
                 default:
-                    int right = pop();
-                    push(joined(code, pop(), right));
-                    break;
+                    int fact = code - PUSH_FACT;
+                    return fact >= 0 && fact < FACTS ? facts[fact] : code;
             }
         }
 
@@ -1441,44 +1487,32 @@ public final class CopiedPages {
                     return left | right;
             }
         }
-
-        private void push(int n) {
-            if (top >= 0 && top < STACK) {
-                stack[top] = n;
-                top++;
-            }
-        }
-
-        private int pop() {
-            if (top <= 0 || top > STACK) {
-                return 0;
-            }
-            top--;
-            return stack[top];
-        }
     }
 
     /** Turns the text of a law into its lines and codes. */
     private static final class LawText {
-        private Tape tape = null;
-        private Law law = null;
+        private final Tape tape;
+        private final Law law;
 
-        boolean parse(Tape from, Law into) {
+        LawText(Tape from, Law into) {
             tape = from;
             law = into;
+        }
+
+        boolean parse() {
             law.clear();
-            tape.rewind();
-            if (tape.thing == END) {
+            tape.scan();
+            if (tape.is(END, NONE)) {
                 return true;
             }
             for (int line = 0; line < LAW_LINES; line++) {
                 if (!readLine()) {
                     return false;
                 }
-                if (tape.thing == END) {
+                if (tape.is(END, NONE)) {
                     return true;
                 }
-                if (!tape.isSign(';')) {
+                if (!tape.is(SIGN, ';')) {
                     return tape.refuse();
                 }
                 tape.step();
@@ -1487,26 +1521,23 @@ public final class CopiedPages {
         }
 
         private boolean readLine() {
-            int kind = tape.isWord("risk") ? LAW_RISK
-                    : tape.isWord("spare") ? LAW_SPARE
-                    : tape.isWord("cost") ? LAW_COST
-                    : NONE;
-            if (kind == NONE) {
+            if (!tape.isWithin(WORD, RISK_WORD, COST_WORD)) {
                 return tape.refuse();
             }
+            int word = tape.told();
             tape.step();
-            if (!tape.isNumber(99)) {
+            if (!tape.isWithin(DIGITS, 0, 99)) {
                 return tape.refuse();
             }
-            int number = tape.number;
+            int number = tape.told();
             tape.step();
-            if (tape.isWord("if")) {
+            if (tape.is(WORD, IF_WORD)) {
                 tape.step();
                 if (!readCondition(0)) {
                     return false;
                 }
             }
-            law.addLine(kind, number);
+            law.addLine(word, number);
             return true;
         }
 
@@ -1521,12 +1552,12 @@ public final class CopiedPages {
                 if (joinsAnd) {
                     law.addCode(AND);
                 }
-                joinsAnd = tape.isWord("and");
+                joinsAnd = tape.is(WORD, AND_WORD);
                 if (!joinsAnd) {
                     if (joinsOr) {
                         law.addCode(OR);
                     }
-                    joinsOr = tape.isWord("or");
+                    joinsOr = tape.is(WORD, OR_WORD);
                     if (!joinsOr) {
                         return true;
                     }
@@ -1537,22 +1568,18 @@ public final class CopiedPages {
         }
 
         private boolean readAtom(int deep) {
-            boolean isNot = tape.isWord("not");
-            if (isNot || tape.isSign('(')) {
+            boolean isNot = tape.is(WORD, NOT_WORD);
+            if (isNot || tape.is(SIGN, '(')) {
                 if (deep >= MOST_DEEP) {
                     return tape.refuse();
                 }
                 tape.step();
                 return isNot ? readNegated(deep + 1) : readEnclosed(deep + 1);
             }
-            int code = tape.isWord("head") ? IS_HEAD
-                    : tape.isWord("slip") ? IS_SLIP
-                    : tape.isWord("even") ? IS_EVEN
-                    : NONE;
-            if (code == NONE) {
+            if (!tape.isWithin(WORD, HEAD_WORD, EVEN_WORD)) {
                 return readComparison();
             }
-            law.addCode(code);
+            law.addCode(IS_HEAD + tape.told() - HEAD_WORD);
             tape.step();
             return true;
         }
@@ -1569,7 +1596,7 @@ public final class CopiedPages {
             if (!readCondition(deep)) {
                 return false;
             }
-            if (!tape.isSign(')')) {
+            if (!tape.is(SIGN, ')')) {
                 return tape.refuse();
             }
             tape.step();
@@ -1580,50 +1607,35 @@ public final class CopiedPages {
             if (!readSum()) {
                 return false;
             }
-            int code = tape.isSign('<') ? LESS : tape.isSign('>') ? MORE : NONE;
-            if (code == NONE) {
+            boolean isLess = tape.is(SIGN, '<');
+            if (!isLess && !tape.is(SIGN, '>')) {
                 return tape.refuse();
             }
             tape.step();
             if (!readSum()) {
                 return false;
             }
-            law.addCode(code);
+            law.addCode(isLess ? LESS : MORE);
             return true;
         }
 
         private boolean readSum() {
             for (int i = 0; i < MOST_BYTES; i++) {
-                int code = partCode();
-                if (code == NONE) {
+                boolean isFact = tape.isWithin(WORD, PAGE_WORD, TICK_WORD);
+                if (!isFact && !tape.isWithin(DIGITS, 0, 999)) {
                     return tape.refuse();
                 }
-                law.addCode(code);
+                law.addCode(isFact ? PUSH_FACT + tape.told() - PAGE_WORD : tape.told());
                 if (i > 0) {
                     law.addCode(ADD);
                 }
                 tape.step();
-                if (!tape.isSign('+')) {
+                if (!tape.is(SIGN, '+')) {
                     return true;
                 }
                 tape.step();
             }
             return tape.refuse();
-        }
-
-        private int partCode() {
-            if (tape.isNumber(999)) {
-                return tape.number;
-            }
-            int fact = tape.isWord("page") ? FACT_PAGE
-                    : tape.isWord("kind") ? FACT_KIND
-                    : tape.isWord("wear") ? FACT_WEAR
-                    : tape.isWord("rows") ? FACT_ROWS
-                    : tape.isWord("version") ? FACT_VERSION
-                    : tape.isWord("readers") ? FACT_READERS
-                    : tape.isWord("tick") ? FACT_TICK
-                    : NONE;
-            return fact == NONE ? NONE : PUSH_FACT + fact;
         }
     }
 
@@ -1645,7 +1657,7 @@ public final class CopiedPages {
         }
 
         private int visit(Disk disk, int page, int level) {
-            if (!isInner(page) || beneath[page] != NONE || level > PAGES) {
+            if (!isInner(page) || beneath[page] != NONE || level > DEEPEST) {
                 return 0;
             }
             beneath[page] = 0;
@@ -2112,18 +2124,17 @@ public final class CopiedPages {
         }
 
         int risksOf(State state, Law law, int k) {
-            weigh(state, k);
-            int risks = state.risk + law.totalOf(LAW_RISK, facts) - law.totalOf(LAW_SPARE, facts);
+            gatherFacts(state, pageOfWrite(k));
+            int risks = state.risk + law.totalOf(RISK_WORD, facts) - law.totalOf(SPARE_WORD, facts);
             return Math.max(0, Math.min(MOST_RISK, risks));
         }
 
         private int costsOf(State state, Law law, int k) {
-            weigh(state, k);
-            return 1 + law.totalOf(LAW_COST, facts);
+            gatherFacts(state, pageOfWrite(k));
+            return 1 + law.totalOf(COST_WORD, facts);
         }
 
-        private void weigh(State state, int k) {
-            int page = pageOfWrite(k);
+        private void gatherFacts(State state, int page) {
             if (!isPage(page)) {
                 return;
             }
