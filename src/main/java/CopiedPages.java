@@ -30,7 +30,6 @@ public final class CopiedPages {
     private static final int NO_FAILURE = 1000;
     private static final int SEEDS = 6;
 
-    private static final int BLANK = 0;
     private static final int LEAF = 1;
     private static final int BRANCH = 2;
     private static final int SLIP = 3;
@@ -122,6 +121,7 @@ public final class CopiedPages {
     private final int[] tickValue = new int[1];
     private final int[] partner = new int[READERS];
     private final int[] bestPartner = new int[READERS];
+    private int mostShared = NONE;
     private final int[] buffers = new int[READERS];
 
     public CopiedPages() {
@@ -868,9 +868,8 @@ public final class CopiedPages {
         int greatest = 0;
         for (int view = 0; view < VIEWS; view++) {
             int part = 0;
-            for (int other = 0; other < VIEWS; other++) {
-                if (hasBit(fits, view) && hasBit(fits, other)
-                        && walks[view].values[key] == walks[other].values[key]) {
+            for (int other = view; hasBit(fits, view) && other < VIEWS; other++) {
+                if (hasBit(fits, other) && walks[view].values[key] == walks[other].values[key]) {
                     part++;
                 }
             }
@@ -879,49 +878,41 @@ public final class CopiedPages {
         return greatest;
     }
 
-    /**
-     * Tries every row of partners in rising order, none ahead of reader 0, so that the first of the most is kept.
-     */
     private int bestPairs() {
         readViews();
-        int base = READERS + 1;
-        int most = NONE;
-        for (int way = 0; way < base * base * base * base; way++) {
-            int rest = way;
-            for (int reader = READERS - 1; reader >= 0; reader--) {
-                partner[reader] = rest % base - 1;
-                rest = rest / base;
-            }
-            int shared = sharedByPairs();
-            if (shared > most) {
-                most = shared;
+        Arrays.fill(partner, NONE);
+        mostShared = NONE;
+        pairFrom(0, 0);
+        return mostShared;
+    }
+
+    /** None is tried ahead of the others, and these rising, so that the first way of the most is the one kept. */
+    private void pairFrom(int reader, int shared) {
+        if (reader < 0 || reader >= READERS) {
+            if (shared > mostShared) {
+                mostShared = shared;
                 System.arraycopy(partner, 0, bestPartner, 0, READERS);
             }
+            return;
         }
-        return most;
-    }
-
-    /** Of the partners that are being tried; NONE if these are no pairs. */
-    private int sharedByPairs() {
-        int shared = 0;
-        for (int reader = 0; reader < READERS; reader++) {
-            int with = partner[reader];
-            if (with != NONE && !isPair(reader, with)) {
-                return NONE;
+        pairFrom(reader + 1, shared);
+        if (partner[reader] != NONE) {
+            return;
+        }
+        for (int other = reader + 1; other < READERS; other++) {
+            if (partner[other] == NONE && mayPair(reader, other)) {
+                partner[reader] = other;
+                partner[other] = reader;
+                pairFrom(reader + 1, shared + walks[reader].pagesShared(walks[other]));
+                partner[reader] = NONE;
+                partner[other] = NONE;
             }
         }
-        for (int reader = 0; reader < READERS; reader++) {
-            if (partner[reader] > reader) {
-                shared += walks[reader].pagesShared(walks[partner[reader]]);
-            }
-        }
-        return shared;
     }
 
-    private boolean isPair(int reader, int with) {
-        return isReader(with) && partner[with] == reader
-                && isOpenView(reader) && isOpenView(with)
-                && now.readerVersion[reader] != now.readerVersion[with];
+    private boolean mayPair(int reader, int other) {
+        return isOpenView(reader) && isOpenView(other)
+                && now.readerVersion[reader] != now.readerVersion[other];
     }
 
     private int neediest() {
@@ -1046,18 +1037,20 @@ public final class CopiedPages {
 
         /** Empties a page for a write, whether this one is made or torn. */
         void wipe(int page, int kindThen) {
-            kind[page] = kindThen;
-            size[page] = 0;
-            next[page] = NONE;
-            wear[page] = Math.min(MOST_WEAR, wear[page] + 1);
+            if (isPage(page)) {
+                kind[page] = kindThen;
+                size[page] = 0;
+                next[page] = NONE;
+                wear[page] = Math.min(MOST_WEAR, wear[page] + 1);
+            }
         }
 
         void append(int page, int one, int other) {
-            int k = size[page];
-            if (k >= 0 && k < ROOM) {
-                first[page * ROOM + k] = one;
-                second[page * ROOM + k] = other;
-                size[page] = k + 1;
+            if (isPage(page) && size[page] >= 0 && size[page] < ROOM) {
+                int at = page * ROOM + size[page];
+                first[at] = one;
+                second[at] = other;
+                size[page]++;
             }
         }
 
@@ -1203,11 +1196,9 @@ public final class CopiedPages {
         void scan() {
             int count = 0;
             int at = endOfRun(0, ' ', ' ');
-            while (at < length) {
+            for (; at < length && count < MOST_BYTES; count++) {
                 begins[count] = at;
-                int behind = scanThing(count, at);
-                at = endOfRun(behind, ' ', ' ');
-                count++;
+                at = endOfRun(scanThing(count, at), ' ', ' ');
             }
             things[count] = END;
             begins[count] = length;
@@ -2029,8 +2020,7 @@ public final class CopiedPages {
             if (draft.tooBig || !placeNodes(draft.root, 0) || !placeSlips()) {
                 return FULL;
             }
-            gatherRows();
-            orderWrites(1 - state.disk.theHead());
+            layOut(1 - state.disk.theHead());
             return writes;
         }
 
@@ -2039,14 +2029,13 @@ public final class CopiedPages {
         }
 
         private int take() {
-            while (cursor < PAGES && !free.isUsable(cursor)) {
+            while (cursor < PAGES && (free.freed[cursor] == NONE || free.freed[cursor] > free.limit)) {
                 cursor++;
             }
             if (cursor < PAGES) {
-                int page = cursor;
-                free.freed[page] = NONE;
+                free.freed[cursor] = NONE;
                 free.rows--;
-                return page;
+                return cursor;
             }
             if (high < HEADS || high >= PAGES) {
                 return NONE;
@@ -2101,22 +2090,17 @@ public final class CopiedPages {
             return true;
         }
 
-        private void gatherRows() {
+        /** Rows and writes, both by rising pages, the head last. */
+        private void layOut(int head) {
             rowCount = 0;
-            for (int page = HEADS; page < PAGES; page++) {
-                if (free.freed[page] != NONE) {
-                    rowPage[rowCount] = page;
-                    rowFreed[rowCount] = free.freed[page];
-                    rowCount++;
-                }
-            }
-        }
-
-        private void orderWrites(int head) {
-            for (int page = HEADS; page < PAGES; page++) {
+            for (int page = HEADS; page < high && page < PAGES; page++) {
                 if (owner[page] != NONE) {
                     order[writes] = page;
                     writes++;
+                } else if (free.freed[page] != NONE) {
+                    rowPage[rowCount] = page;
+                    rowFreed[rowCount] = free.freed[page];
+                    rowCount++;
                 }
             }
             order[writes] = head;
@@ -2190,19 +2174,23 @@ public final class CopiedPages {
         }
 
         private void write(Disk disk, int page) {
-            if (page < HEADS) {
+            if (!isInner(page)) {
                 writeHead(disk, page);
             } else if (owner[page] >= NODES) {
                 writeSlip(disk, page, owner[page] - NODES);
-            } else {
+            } else if (owner[page] >= 0) {
                 writeNode(disk, page, owner[page]);
             }
+        }
+
+        private int placeOf(int node) {
+            return node < 0 || node >= NODES ? NONE : pageOfNode[node];
         }
 
         private void writeHead(Disk disk, int head) {
             disk.wipe(head, HEAD);
             disk.tellHead(head, NUMBER, number);
-            disk.tellHead(head, TREE, draft.root == NONE ? NONE : pageOfNode[draft.root]);
+            disk.tellHead(head, TREE, placeOf(draft.root));
             disk.tellHead(head, LIST, slipCount == 0 ? NONE : slips[0]);
             disk.tellHead(head, HIGH, high);
         }
@@ -2220,7 +2208,7 @@ public final class CopiedPages {
             boolean isBranch = draft.kind[node] == BRANCH;
             for (int k = 0; k < draft.size[node] && k < ROOM; k++) {
                 int other = draft.second[node * ROOM + k];
-                disk.append(page, draft.first[node * ROOM + k], isBranch ? pageOfNode[other] : other);
+                disk.append(page, draft.first[node * ROOM + k], isBranch ? placeOf(other) : other);
             }
         }
     }
