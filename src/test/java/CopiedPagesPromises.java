@@ -194,6 +194,9 @@ public final class CopiedPagesPromises {
         badWork(x, "put 1 1;", 8);
         badWork(x, "put 1 1 ; ", 10);
         badWork(x, "put 1;put 1 1", 5);
+        badWork(x, "put 1 100", 6);
+        badWork(x, "put 100 1", 4);
+        badWork(x, "tick 1000", 5);
         badWork(x, "put;", 3);
         badWork(x, "drop ;", 5);
         badWork(x, "drop 1 2 100 3", 9);
@@ -258,6 +261,8 @@ public final class CopiedPagesPromises {
     private static void wrongLaws() {
         CopiedPages x = new CopiedPages();
         badLaw(x, "cost 1;", 7);
+        badLaw(x, "cost 100", 5);
+        badLaw(x, "spare 100 if even", 6);
         badLaw(x, "put 1 1", 0);
         badLaw(x, "tick 1", 0);
         badLaw(x, "risk 099 if", 11);
@@ -310,6 +315,7 @@ public final class CopiedPagesPromises {
         holds(x, "page<3 and page>0", 7200);
         holds(x, "kind<1", 8000);
         holds(x, "kind>2", 9000);
+        holds(x, "kind>2 and kind<4", 9000);
         holds(x, "wear<1", 7200);
         holds(x, "wear>0", 10000);
         holds(x, "rows>0", 8000);
@@ -778,6 +784,16 @@ public final class CopiedPagesPromises {
         due("used up", x.feed(0, 0, 0, 0, 0), 20);
         type(x, new int[40]);
         due("forty bytes", x.seen(), 0);
+        int[] rows20 = new int[40];
+        for (int row = 0; row < 20; row++) {
+            rows20[2 * row] = 60 + row;
+            rows20[2 * row + 1] = row < 18 ? 100 : 0;
+        }
+        type(x, rows20);
+        due("the last two of twenty rows wrong", x.seen(), 0);
+        rows20[39] = 100;
+        type(x, rows20);
+        due("one of twenty rows wrong", x.seen(), 31);
         for (int[] rows : new int[][] {{1}, {100, 0}, {255, 0}, {0, 101}, {0, 255}, new int[42], {1, 1, 1}}) {
             type(x, rows);
             thrown("seen", ARGUMENT, () -> x.seen());
@@ -852,6 +868,10 @@ public final class CopiedPagesPromises {
         thrown("most 3", ELEMENT, () -> x.most(3));
         thrown("most -1", ELEMENT, () -> x.most(-1));
         CopiedPages y = new CopiedPages();
+        work(y, "put 1 1");
+        due("a leaf of one", y.most(1), 2);
+        work(y, "drop 1");
+        due("no depth", y.tree(4, 1), 0);
         due("no leaf", y.most(1), NONE);
         due("no reader", y.most(2), NONE);
     }
@@ -880,6 +900,10 @@ public final class CopiedPagesPromises {
         x.ticks(30);
         due("as it came", x.count(0), version);
         due("keys as they came", x.tree(4, 0), keys);
+        due("60 is the most", x.span(60, true) >= x.span(60, false) && x.trial(60, true) >= 0, true);
+        CopiedPages y = new CopiedPages();
+        due("no key", y.span(0, true), 0);
+        due("no key at least", y.span(0, false), 0);
         thrown("trial 61", ARGUMENT, () -> x.trial(61, false));
         thrown("trial -1", ARGUMENT, () -> x.trial(-1, false));
         thrown("span 61", ARGUMENT, () -> x.span(61, true));
@@ -980,6 +1004,79 @@ public final class CopiedPagesPromises {
         due("seed what it was", z.seed(0), Integer.MIN_VALUE);
     }
 
+    /** A commit that writes a head alone, and one torn write that is all wear there is. */
+    private static void headAlone() {
+        CopiedPages x = new CopiedPages();
+        x.put(1, 1);
+        x.put(1, 100);
+        due("one write", x.would(NONE), 1);
+        due("the head", x.would(0), 1);
+        due("commit", x.commit(), 1);
+        due("number", x.count(0), 1);
+        due("no tree", x.head(1, 1), NONE);
+        due("logged", x.log(0, 3), 1);
+        CopiedPages y = new CopiedPages();
+        y.put(1, 1);
+        y.cut(0);
+        due("all wear", y.page(2, 6), 100);
+        due("none", y.page(0, 6), 0);
+        due("worn", y.most(0), 2);
+        due("torn", y.many(5), 2);
+    }
+
+    /** The law's wear, version and tick go round at 100. */
+    private static void lawGoesRound() {
+        CopiedPages x = new CopiedPages();
+        law(x, "risk 50 if head and version<1");
+        for (int i = 1; i < 100; i++) {
+            x.put(1, i);
+            x.commit();
+        }
+        x.put(1, 0);
+        due("version 100", x.comes(), 5000);
+        law(x, "risk 50 if head and wear<1");
+        due("wear 49", x.comes(), 10000);
+        for (int i = 100; i < 200; i++) {
+            x.put(1, i % 100);
+            x.commit();
+        }
+        x.put(1, 50);
+        due("wear 99 of head 0", x.comes(), 10000);
+        x.commit();
+        x.put(1, 0);
+        due("head 1 was written 100 times", x.page(1, 2), 100);
+        due("wear 0", x.comes(), 5000);
+        x.commit();
+        x.put(1, 1);
+        due("and head 0", x.page(0, 2), 100);
+        due("wear 0 again", x.comes(), 5000);
+        law(x, "risk 50 if head and tick<1");
+        work(x, "tick 200");
+        due("tick 200", x.comes(), 5000);
+    }
+
+    private static void manyThings() {
+        CopiedPages x = new CopiedPages();
+        StringBuilder signs = new StringBuilder();
+        StringBuilder sums = new StringBuilder("cost 5 if 1");
+        for (int i = 0; i < 400; i++) {
+            signs.append(';');
+        }
+        while (sums.length() < 398) {
+            sums.append("+1");
+        }
+        badWork(x, signs.toString(), 0);
+        badLaw(x, signs.toString(), 0);
+        badLaw(x, sums.toString(), sums.length());
+        sums.setLength(396);
+        due("a long sum", law(x, sums.substring(0, 395) + ">193"), 1);
+        work(x, "put 1 1");
+        due("it is no more", x.count(5), 2);
+        due("a long sum", law(x, sums.substring(0, 395) + ">192"), 1);
+        work(x, "put 2 1");
+        due("it is more", x.count(5), 2 + 3 * 6);
+    }
+
     private static void counts() {
         CopiedPages x = twoVersions();
         law(x, "cost 1;cost 2 if head");
@@ -1039,6 +1136,9 @@ public final class CopiedPagesPromises {
         trialsAndSpans();
         ledAndLog();
         goingBack();
+        headAlone();
+        lawGoesRound();
+        manyThings();
         counts();
         bounds();
         System.out.println(asked + " cases of the promises, " + wrong + " wrong");
