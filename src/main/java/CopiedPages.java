@@ -54,7 +54,8 @@ public final class CopiedPages {
      */
     private static final int NODES = PAGES + 128;
 
-    private static final int FULL = -1;
+    /** Instead of how many writes; would() answers it as it is. */
+    private static final int FULL = NONE;
 
     private static final int FACTS = 7;
     private static final int FACT_PAGE = 0;
@@ -2183,14 +2184,14 @@ public final class CopiedPages {
             }
         }
 
-        private int placeOf(int node) {
+        private int pageFor(int node) {
             return node < 0 || node >= NODES ? NONE : pageOfNode[node];
         }
 
         private void writeHead(Disk disk, int head) {
             disk.wipe(head, HEAD);
             disk.tellHead(head, NUMBER, number);
-            disk.tellHead(head, TREE, placeOf(draft.root));
+            disk.tellHead(head, TREE, pageFor(draft.root));
             disk.tellHead(head, LIST, slipCount == 0 ? NONE : slips[0]);
             disk.tellHead(head, HIGH, high);
         }
@@ -2208,7 +2209,7 @@ public final class CopiedPages {
             boolean isBranch = draft.kind[node] == BRANCH;
             for (int k = 0; k < draft.size[node] && k < ROOM; k++) {
                 int other = draft.second[node * ROOM + k];
-                disk.append(page, draft.first[node * ROOM + k], isBranch ? placeOf(other) : other);
+                disk.append(page, draft.first[node * ROOM + k], isBranch ? pageFor(other) : other);
             }
         }
     }

@@ -1634,7 +1634,8 @@ public final class CopiedPagesAgainstModel {
             TreeMap<Integer, Integer> map = model.mapOf(view);
             byte[] rows = new byte[pick(30) == 0 ? pick(60) : 2 * pick(7)];
             for (int i = 0; i + 1 < rows.length; i += 2) {
-                int key = pick(3) > 0 && !map.isEmpty() ? new ArrayList<>(map.keySet()).get(pick(map.size())) : pick(100);
+                boolean there = pick(3) > 0 && !map.isEmpty();
+                int key = there ? new ArrayList<>(map.keySet()).get(pick(map.size())) : pick(100);
                 rows[i] = (byte) key;
                 rows[i + 1] = (byte) (int) map.getOrDefault(key, 100);
                 if (pick(6) == 0) {

@@ -249,7 +249,8 @@ public final class CopiedPagesPromises {
         due("a wrong one leaves the law", x.count(3), 3);
         due("and acts", x.count(11), 1);
         due("comes by it", x.comes(), 9000 * 95 / 100);
-        due("12 lines", law(x, "cost 1;cost 1;cost 1;cost 1;cost 1;cost 1;cost 1;cost 1;cost 1;cost 1;cost 1;cost 99"), 12);
+        due("12 lines", law(x, "cost 1;cost 1;cost 1;cost 1;cost 1;cost 1;cost 1;cost 1;cost 1;cost 1;cost 1;"
+                + "cost 99"), 12);
         due("none are remembered", x.count(11), 0);
         due("two writes", x.commit(), 2);
         due("cost of both", x.count(5), 2 * (1 + 11 + 99));
