@@ -295,6 +295,19 @@ public final class BoundsOfActs extends Cases {
         due("a NUMBER", x.count(0), 4);
     }
 
+    static void promise15WithoutAFailure() {
+        CopiedPages x = twoVersions();
+        law(x, "risk 99;risk 99");
+        x.risk(100);
+        x.seed(5);
+        put(x, 60, 6);
+        due("root, leaf, slip, head", x.commit(), 4);
+        due("through", x.count(0), 3);
+        due("no DRAW", x.seed(1), 5);
+        due("written to the end", x.log(0, 2), 0);
+        due("the READER stays", x.reader(1), 1);
+    }
+
     static void promise15TheHeadAlone() {
         CopiedPages x = fresh();
         put(x, 1, 1, 2, 2, 3, 3, 4, 4, 5, 5, 1, 100, 2, 100, 3, 100, 4, 100, 5, 100);
@@ -800,6 +813,18 @@ public final class BoundsOfActs extends Cases {
 
     static void promise16PowerForOneMore() {
         cutAt(5, 2, 1, 3, 4);
+    }
+
+    static void promise16NothingOfTheReadersStays() {
+        CopiedPages x = busy();
+        due("pages that READERS keep", x.many(9), 3);
+        x.cut(2);
+        due("PINNED", x.many(9), 0);
+        due("a TENANT of page 2", x.page(2, 4), 0);
+        due("of page 4", x.page(4, 4), 16);
+        due("shares are alike", x.share(0, 9), 9);
+        due("WAITS", x.many(7), 0);
+        due("OLDEST", x.most(2), NONE);
     }
 
     static void promise16NothingToCut() {

@@ -110,6 +110,19 @@ public final class BoundsOfSights extends Cases {
         same("seen", x, other);
     }
 
+    static void promise31OnlyTheBytesThatAreThere() {
+        CopiedPages x = twoVersions();
+        x.feed(0x2804ffff, -1, -1, -1, -1);
+        x.end(2);
+        due("255 behind the end", x.seen(), 18);
+        x.feed(0x28043205, 0x0a630a63, -1, -1, -1);
+        x.end(4);
+        due("rows behind the end", x.seen(), 16);
+        x.feed(-1, -1, -1, -1, -1);
+        x.end(0);
+        due("none", x.seen(), 18);
+    }
+
     // ---- promise 32
 
     static void promise32TheTapeIsNotThat() {
@@ -164,6 +177,15 @@ public final class BoundsOfSights extends Cases {
         due("no KEY parts them: the least", look(x), 0);
         CopiedPages y = twoVersions();
         due("40 and 50 part them: the least", look(y), 40);
+    }
+
+    static void promise33AllFiveAreAlike() {
+        CopiedPages x = twoVersions();
+        x.close(1);
+        for (int reader = 0; reader < 4; reader++) {
+            x.open(reader);
+            due("no KEY parts them: the least", look(x), 0);
+        }
     }
 
     static void promise33TheGreatestPartIsTheLeast() {
@@ -289,6 +311,19 @@ public final class BoundsOfSights extends Cases {
         for (int reader = 0; reader < 4 && best != null; reader++) {
             due("reader " + reader, x.pairs(reader), best[reader]);
         }
+    }
+
+    static void promise34AskedAgain() {
+        CopiedPages x = lastSlipEmpty();
+        x.open(0);
+        work(x, "put 1 99");
+        x.open(1);
+        due("three leaves", x.pairs(NONE), 3);
+        due("both", x.pairs(0), 1);
+        x.close(1);
+        due("none now", x.pairs(NONE), 0);
+        due("none now", x.pairs(0), NONE);
+        due("none now", x.pairs(1), NONE);
     }
 
     static void promise34NothingChanges() {

@@ -377,6 +377,14 @@ public final class BoundsOfTexts extends Cases {
         wrongWork("^5");
     }
 
+    static void promise4WordsLetterByLetter() {
+        String[] words = {"but", "pat", "pun", "crop", "dzop", "drip", "droq", "disk", "rask", "rick", "rise", "sick",
+            "tack", "tisk", "tics"};
+        for (String word : words) {
+            wrongWork("^" + word + " 1 1");
+        }
+    }
+
     static void promise4DigitsAreZeroToNine() {
         due("0 and 9", work(fresh(), "put 09 90"), 1);
         wrongWork("put 1 1^/");
@@ -390,6 +398,23 @@ public final class BoundsOfTexts extends Cases {
         wrongWork("risk 1;" + " ".repeat(393) + "^");
         wrongWork(" ".repeat(399) + "^;");
         due("400 bytes", work(fresh(), " ".repeat(394) + "risk 1"), 1);
+    }
+
+    static void promise4FourHundredThings() {
+        wrongWork("^" + ";".repeat(400));
+        wrongWork("^" + "(".repeat(400));
+        wrongWork("put" + "^" + ";".repeat(397));
+    }
+
+    static void promise4OnlyTheBytesThatAreThere() {
+        CopiedPages x = fresh();
+        type(x, "risk 777777777");
+        x.end(6);
+        due("behind the end", x.work(), 1);
+        due("RISK", x.count(4), 7);
+        type(x, "tick 1;word");
+        x.end(6);
+        due("behind the end", x.work(), 2);
     }
 
     // ---- promise 4: what comes of it
@@ -611,6 +636,12 @@ public final class BoundsOfTexts extends Cases {
         wrongLaw("risk 1 if head^)");
         wrongLaw("risk 1 if (head)^)");
         wrongLaw("risk 1 if (^)");
+        wrongLaw("risk 1 if (^");
+        wrongLaw("risk 1 if (^;risk 1");
+        wrongLaw("risk 1 if (head and ^;risk 1");
+        wrongLaw("risk 1 if (not ^;risk 1");
+        wrongLaw("risk 1 if (1<^;risk 1");
+        wrongLaw("risk 1 if not (head or ^;risk 1");
         wrongLaw("risk 1^)");
         wrongLaw("risk 1 ^(head)");
     }
@@ -675,6 +706,41 @@ public final class BoundsOfTexts extends Cases {
         due("as close as can be", law(fresh(), "risk1if(head)and not(slip)or 1<page"), 1);
     }
 
+    static void promise5WordsLetterByLetter() {
+        String[] lineWords = {"disk", "rick", "rise", "share", "space", "spark", "spars", "most", "cast", "cosy"};
+        for (String word : lineWords) {
+            wrongLaw("^" + word + " 1");
+        }
+        String[] parts = {"lead", "held", "heat", "flip", "snip", "slit", "oven", "ever", "cage", "pace", "pags", "find",
+            "kine", "dear", "wean", "weal", "bows", "rows.", "versions", "version.", "leaders", "reader", "sick", "tuck"};
+        for (String word : parts) {
+            if (word.endsWith(".")) {
+                wrongLaw("risk 1 if " + word.substring(0, word.length() - 1) + "^.<1");
+            } else {
+                wrongLaw("risk 1 if ^" + word + "<1");
+                wrongLaw("risk 1 if 1<^" + word);
+            }
+        }
+        wrongLaw("risk 1 ^of head");
+        wrongLaw("risk 1 ^is head");
+        wrongLaw("risk 1 if ^nor head");
+        wrongLaw("risk 1 if head ^end slip");
+        wrongLaw("risk 1 if head ^ant slip");
+        wrongLaw("risk 1 if head ^on slip");
+    }
+
+    static void promise5FourHundredThings() {
+        wrongLaw("^" + ";".repeat(400));
+        wrongLaw("cost 1 if 1" + "+1".repeat(194) + " ^");
+        CopiedPages x = fresh();
+        due("a sum of 193", law(x, "cost 5 if 1" + "+1".repeat(192) + ">192"), 1);
+        work(x, "put 1 1");
+        due("it is more", x.count(5), 12);
+        due("a sum of 193", law(x, "cost 5 if 1" + "+1".repeat(192) + ">193"), 1);
+        work(x, "put 2 2");
+        due("it is no more", x.count(5), 15);
+    }
+
     static void promise5OnlyByte32IsBlank() {
         int[] bytes = {9, 10, 0, 31, 33, 160, 255};
         for (int b : bytes) {
@@ -696,6 +762,24 @@ public final class BoundsOfTexts extends Cases {
         due("10 alone", x.comes(), 9000);
         law(x, "");
         due("none", x.comes(), 10000);
+    }
+
+    /** What stays of the one before would turn the shorter one round. */
+    static void promise5NothingStaysOfTheOneBefore() {
+        CopiedPages x = fresh();
+        put(x, 1, 1);
+        law(x, "risk 50 if not head");
+        due("the leaf", x.comes(), 5000);
+        law(x, "risk 20 if head");
+        due("the head", x.comes(), 8000);
+        law(x, "risk 50 if head and 1<2 and not even and not slip or even and even");
+        due("both", x.comes(), 2500);
+        law(x, "risk 20 if 1<2");
+        due("both", x.comes(), 6400);
+        law(x, "risk 50 if head;risk 20 if even and not not head;cost 1 if not head");
+        due("the head", x.comes(), 5000);
+        law(x, "risk 50 if head;risk 20");
+        due("the head more", x.comes(), 8000 * 30 / 100);
     }
 
     static void promise5NoneAreRemembered() {
@@ -752,6 +836,71 @@ public final class BoundsOfTexts extends Cases {
         holds("head", false, true);
         holds("slip", false, false);
         holds("even", true, false);
+    }
+
+    /** Kept by a reader: a leaf, slips of six rows and of one, and the head are written. */
+    private static void holdsOfSlips(String condition, int writes) {
+        CopiedPages x = versionsKept(4);
+        put(x, 1, 50);
+        due("writes", x.would(NONE), 4);
+        law(x, "cost 1 if " + condition);
+        int before = x.count(5);
+        x.commit();
+        due(condition, x.count(5) - before, 4 + writes);
+    }
+
+    static void promise5SlipsAreKind2() {
+        holdsOfSlips("slip", 2);
+        holdsOfSlips("not slip", 2);
+        holdsOfSlips("not not slip", 2);
+        holdsOfSlips("not slip and not head", 1);
+        holdsOfSlips("slip or head", 3);
+        holdsOfSlips("slip and head", 0);
+        holdsOfSlips("kind>1", 3);
+        holdsOfSlips("kind<2", 1);
+        holdsOfSlips("kind>1 and kind<3", 2);
+    }
+
+    static void promise5RowsOfSlips() {
+        holdsOfSlips("slip and rows>5", 1);
+        holdsOfSlips("slip and rows>6", 0);
+        holdsOfSlips("slip and rows<6", 1);
+        holdsOfSlips("slip and rows<2", 1);
+        holdsOfSlips("slip and rows<1", 0);
+        CopiedPages x = versionsKept(6);
+        x.close(0);
+        put(x, 2, 2, 3, 3, 4, 4, 5, 5, 6, 6, 7, 7, 8, 8, 9, 9, 10, 10, 11, 11);
+        law(x, "risk 50 if slip and rows<1");
+        due("the last of none", x.comes(), 5000);
+        law(x, "risk 50 if slip and rows>5");
+        due("the first of six", x.comes(), 5000);
+        law(x, "risk 50 if slip and rows>0");
+        due("the first alone", x.comes(), 5000);
+    }
+
+    /** Root 2 of four leaves, and no slip. */
+    private static void holdsOfBranches(String condition, int writes) {
+        CopiedPages x = fresh();
+        law(x, "cost 1 if " + condition);
+        work(x, "put 1 1 2 1 3 1 4 1 5 1 6 1 7 1 8 1 9 1 10 1 11 1");
+        due(condition, x.count(5), 6 + writes);
+    }
+
+    static void promise5BranchesAreKind1() {
+        holdsOfBranches("kind<1", 4);
+        holdsOfBranches("kind>0", 2);
+        holdsOfBranches("kind>0 and kind<2", 1);
+        holdsOfBranches("kind>1", 1);
+        holdsOfBranches("head", 1);
+        holdsOfBranches("even", 3);
+    }
+
+    static void promise5RowsOfBranchesAreChildren() {
+        holdsOfBranches("rows>3", 1);
+        holdsOfBranches("rows>4", 0);
+        holdsOfBranches("rows>2", 4);
+        holdsOfBranches("rows<3 and rows>0", 1);
+        holdsOfBranches("rows<1", 1);
     }
 
     static void promise5RowsOfAWrite() {

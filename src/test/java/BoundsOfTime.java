@@ -92,21 +92,27 @@ public final class BoundsOfTime extends Cases {
     /** For each number of ticks the bounds are met by one of the six seeds, so that no other seed has a part in it. */
     static void promise39NoOtherSeed() {
         for (int n = 1; n <= 60; n++) {
-            CopiedPages x = fresh();
-            int least = x.span(n, false);
-            int greatest = x.span(n, true);
-            boolean metLeast = false;
-            boolean metGreatest = false;
-            for (int s = 1; s <= 6; s++) {
-                x.seed(s);
-                int keys = x.trial(n, true);
-                due("within", keys >= least && keys <= greatest, true);
-                metLeast |= keys == least;
-                metGreatest |= keys == greatest;
-            }
-            due("one of six is the least", metLeast, true);
-            due("one of six is the greatest", metGreatest, true);
+            boundsAreMet(fresh(), n);
+            CopiedPages x = lastSlipEmpty();
+            x.risk(20);
+            boundsAreMet(x, n);
         }
+    }
+
+    private static void boundsAreMet(CopiedPages x, int n) {
+        int least = x.span(n, false);
+        int greatest = x.span(n, true);
+        boolean metLeast = false;
+        boolean metGreatest = false;
+        for (int s = 1; s <= 6; s++) {
+            x.seed(s);
+            int keys = x.trial(n, true);
+            due("within", keys >= least && keys <= greatest, true);
+            metLeast |= keys == least;
+            metGreatest |= keys == greatest;
+        }
+        due("one of six is the least", metLeast, true);
+        due("one of six is the greatest", metGreatest, true);
     }
 
     static void promise39NothingStays() {
@@ -354,6 +360,42 @@ public final class BoundsOfTime extends Cases {
         undone("ticks on a full disk", Cases::nearlyFull, y -> y.ticks(1));
     }
 
+    static void promise43ChangesThatWereToldOver() {
+        CopiedPages x = fresh();
+        put(x, 1, 11, 2, 100);
+        x.forget();
+        put(x, 3, 33, 4, 44);
+        x.undo();
+        x.undo();
+        x.undo();
+        due("two", x.count(1), 2);
+        due("KEY", x.change(0, 0), 1);
+        due("VALUE", x.change(0, 1), 11);
+        due("KEY", x.change(1, 0), 2);
+        due("VALUE", x.change(1, 1), 100);
+    }
+
+    static void promise43RowsOfTheLogThatWereWrittenOver() {
+        CopiedPages x = fresh();
+        for (int i = 1; i <= 60; i++) {
+            put(x, 1, i);
+            x.commit();
+        }
+        put(x, 1, 0);
+        x.commit();
+        due("the first is gone", x.log(59, 1), 2);
+        x.undo();
+        due("it is back", x.log(59, 1), 1);
+        due("the latest", x.log(0, 1), 60);
+        put(x, 2, 2);
+        x.cut(1);
+        x.undo();
+        for (int ago = 0; ago < 60; ago++) {
+            due(ago + " ago", x.log(ago, 1), 60 - ago);
+            due(ago + " ago, kind", x.log(ago, 2), 0);
+        }
+    }
+
     static void promise43QuestionsAreNoActs() {
         CopiedPages x = busy();
         x.image();
@@ -472,6 +514,39 @@ public final class BoundsOfTime extends Cases {
         x.back();
         due("no LAW", x.count(3), NONE);
         samePicture("new", x, fresh());
+    }
+
+    static void promise44TheLawOfThen() {
+        CopiedPages x = fresh();
+        put(x, 1, 1);
+        law(x, "risk 50 if head;cost 9");
+        x.image();
+        law(x, "risk 10 if even");
+        due("another", x.comes(), 9000);
+        x.back();
+        due("LINES", x.count(3), 2);
+        due("what holds", x.comes(), 5000);
+        x.commit();
+        due("what it costs", x.count(5), 20);
+    }
+
+    static void promise44ChangesAndRowsOfThen() {
+        CopiedPages x = twoVersions();
+        put(x, 1, 11, 2, 100);
+        x.image();
+        x.close(1);
+        x.forget();
+        put(x, 3, 33, 4, 44);
+        for (int i = 0; i < 60; i++) {
+            x.commit();
+            put(x, 5, i, 6, 60 - i);
+        }
+        x.back();
+        due("KEY", x.change(0, 0), 1);
+        due("VALUE", x.change(1, 1), 100);
+        due("rows", x.count(10), 2);
+        due("the first row", x.log(1, 1), 1);
+        due("behind it", x.log(2, 1), NONE);
     }
 
     static void promise45NoneWasKept() {
