@@ -118,6 +118,9 @@ public final class BoundsOfSights extends Cases {
         x.feed(0x28043205, 0x0a630a63, -1, -1, -1);
         x.end(4);
         due("rows behind the end", x.seen(), 16);
+        x.feed(0x28043205, -1, -1, -1, -1);
+        x.end(4);
+        due("255 behind two rows", x.seen(), 16);
         x.feed(-1, -1, -1, -1, -1);
         x.end(0);
         due("none", x.seen(), 18);

@@ -764,22 +764,22 @@ public final class BoundsOfTexts extends Cases {
         due("none", x.comes(), 10000);
     }
 
-    /** What stays of the one before would turn the shorter one round. */
+    /** What stays of the one before would turn the shorter one round: of four writes one is the head's. */
     static void promise5NothingStaysOfTheOneBefore() {
-        CopiedPages x = fresh();
-        put(x, 1, 1);
+        CopiedPages x = versionsKept(4);
+        put(x, 1, 50);
         law(x, "risk 50 if not head");
-        due("the leaf", x.comes(), 5000);
-        law(x, "risk 20 if head");
-        due("the head", x.comes(), 8000);
-        law(x, "risk 50 if head and 1<2 and not even and not slip or even and even");
-        due("both", x.comes(), 2500);
-        law(x, "risk 20 if 1<2");
-        due("both", x.comes(), 6400);
+        due("all but the head", x.comes(), 1250);
+        law(x, "risk 50 if head");
+        due("the head", x.comes(), 5000);
+        law(x, "risk 50 if head and 1<2 and not even and not slip or even and even or slip");
+        due("the head and slips 10 and 11", x.comes(), 1250);
+        law(x, "risk 50 if 2<1");
+        due("none", x.comes(), 10000);
         law(x, "risk 50 if head;risk 20 if even and not not head;cost 1 if not head");
         due("the head", x.comes(), 5000);
         law(x, "risk 50 if head;risk 20");
-        due("the head more", x.comes(), 8000 * 30 / 100);
+        due("the head more", x.comes(), 8000 * 80 / 100 * 80 / 100 * 30 / 100);
     }
 
     static void promise5NoneAreRemembered() {

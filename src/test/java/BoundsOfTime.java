@@ -377,22 +377,19 @@ public final class BoundsOfTime extends Cases {
 
     static void promise43RowsOfTheLogThatWereWrittenOver() {
         CopiedPages x = fresh();
-        for (int i = 1; i <= 60; i++) {
-            put(x, 1, i);
+        for (int i = 1; i <= 90; i++) {
+            put(x, 1, i % 100);
             x.commit();
-        }
-        put(x, 1, 0);
-        x.commit();
-        due("the first is gone", x.log(59, 1), 2);
-        x.undo();
-        due("it is back", x.log(59, 1), 1);
-        due("the latest", x.log(0, 1), 60);
-        put(x, 2, 2);
-        x.cut(1);
-        x.undo();
-        for (int ago = 0; ago < 60; ago++) {
-            due(ago + " ago", x.log(ago, 1), 60 - ago);
-            due(ago + " ago, kind", x.log(ago, 2), 0);
+            if (i >= 60) {
+                put(x, 2, i % 100);
+                x.cut(0);
+                due("the first is gone", x.log(59, 1), i - 58);
+                x.undo();
+                due("it is back", x.log(59, 1), i - 59);
+                due("the latest", x.log(0, 1), i);
+                due("its kind", x.log(0, 2), 0);
+                x.undo();
+            }
         }
     }
 
