@@ -735,6 +735,7 @@ public final class BoundsOfActs extends Cases {
             x.ticks(60);
         }
         due("close to it", x.page(0, 2) > 9950 && x.page(0, 2) < 9998, true);
+        due("NUMBER has no such bound", x.count(0) > 19900, true);
         for (int i = 0; x.page(0, 2) < 9998 && i < 60; i++) {
             x.ticks(1);
         }
