@@ -920,6 +920,18 @@ public final class BoundsOfTexts extends Cases {
         holds("readers>2", false, false);
         holds("readers<2", false, false);
         holds("readers<3", true, true);
+        CopiedPages x = fresh();
+        put(x, 1, 1);
+        law(x, "risk 50 if head and readers<1");
+        due("none", x.comes(), 5000);
+        for (int reader = 0; reader < 4; reader++) {
+            x.open(reader);
+        }
+        due("four are not none", x.comes(), 10000);
+        law(x, "risk 50 if head and readers>3");
+        due("four", x.comes(), 5000);
+        law(x, "risk 50 if head and readers>4");
+        due("no more", x.comes(), 10000);
     }
 
     static void promise5TickGoesRoundAt100() {

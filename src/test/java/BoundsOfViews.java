@@ -461,6 +461,25 @@ public final class BoundsOfViews extends Cases {
         due("used up", usedUp().many(8), 0);
     }
 
+    /** Each is asked on its own, behind a question about the LIST as it was ahead of a COMMIT. */
+    static void promise29TheListAsItIsNow() {
+        int[] after = {0, 0, 0, 0, 0, 0, 3, 3, 0, 2};
+        for (int what = 6; what < 10; what++) {
+            CopiedPages x = fresh();
+            work(x, "put 1 1 2 2 3 3 4 4");
+            x.open(0);
+            due("no row", x.many(6), 0);
+            put(x, 5, 5);
+            x.commit();
+            due("a row", x.many(6), 1);
+            x.close(0);
+            x.open(0);
+            put(x, 5, 6);
+            x.commit();
+            due("many " + what, x.many(what), after[what]);
+        }
+    }
+
     // ---- promise 30
 
     static void promise30WithTheRootAloneOrNoTree() {

@@ -4,21 +4,27 @@ import java.lang.reflect.Member;
 import java.lang.reflect.Method;
 import java.lang.reflect.Modifier;
 import java.util.Arrays;
+import java.util.NoSuchElementException;
 import java.util.TreeSet;
 
 /** The public face is the document's, and nothing else of the class can be seen from outside. */
 public final class CopiedPagesFace {
+    /** Behind each method the exceptions that it tells, in their order, by a word of their name. */
     private static final String[] FACE = {
-        "int feed(int,int,int,int,int)", "boolean end(int)", "int work()", "int law()", "int fault()",
-        "int page(int,int)", "int entry(int,int,boolean)", "int head(int,int)", "int reader(int)",
-        "int change(int,int)", "int ticks(int)", "int put(int,int)", "int forget()", "int commit()",
-        "boolean cut(int)", "boolean store()", "int open(int)", "int close(int)", "int risk(int)",
-        "int value(int,int)", "int tree(int,int)", "int rank(int,int)", "int sum(int,int,int)",
-        "int common(int,int)", "int unlike(int,int)", "int would(int)", "int comes()", "int many(int)",
-        "int precious(boolean)", "int seen()", "int likely()", "int look()", "int pairs(int)",
-        "int share(int,int)", "int rests()", "int most(int)", "int trial(int,boolean)", "int span(int,boolean)",
-        "int led(int,boolean)", "int log(int,int)", "int seed(int)", "boolean undo()", "void image()",
-        "boolean back()", "int count(int)"};
+        "int feed(int,int,int,int,int)", "boolean end(int)", "int work() Argument Unsupported State",
+        "int law() Argument", "int fault()", "int page(int,int) Index Element", "int entry(int,int,boolean) Index",
+        "int head(int,int) Index Element", "int reader(int) Index", "int change(int,int) Element",
+        "int ticks(int) Argument", "int put(int,int) Index Argument State", "int forget()", "int commit() State",
+        "boolean cut(int) Argument State", "boolean store() State", "int open(int) Index State",
+        "int close(int) Index State", "int risk(int) Argument", "int value(int,int) Index State",
+        "int tree(int,int) Index Element State", "int rank(int,int) Index State",
+        "int sum(int,int,int) Index Argument State", "int common(int,int) Index State",
+        "int unlike(int,int) Index State", "int would(int)", "int comes()", "int many(int) Element",
+        "int precious(boolean)", "int seen() Argument", "int likely() Argument", "int look() Argument",
+        "int pairs(int) Index", "int share(int,int) Index Argument", "int rests()", "int most(int) Element",
+        "int trial(int,boolean) Argument", "int span(int,boolean) Argument", "int led(int,boolean) Element",
+        "int log(int,int) Element", "int seed(int)", "boolean undo()", "void image()", "boolean back()",
+        "int count(int)"};
     private static int wrong = 0;
 
     private static void due(String what, boolean holds) {
@@ -33,7 +39,27 @@ public final class CopiedPagesFace {
         for (int i = 0; i < m.getParameterCount(); i++) {
             b.append(i > 0 ? "," : "").append(m.getParameterTypes()[i].getName());
         }
-        return b.append(')').toString();
+        b.append(')');
+        for (Class<?> told : m.getExceptionTypes()) {
+            b.append(' ').append(wordOf(told));
+        }
+        return b.toString();
+    }
+
+    private static String wordOf(Class<?> exception) {
+        if (exception == IndexOutOfBoundsException.class) {
+            return "Index";
+        }
+        if (exception == NoSuchElementException.class) {
+            return "Element";
+        }
+        if (exception == IllegalArgumentException.class) {
+            return "Argument";
+        }
+        if (exception == IllegalStateException.class) {
+            return "State";
+        }
+        return exception == UnsupportedOperationException.class ? "Unsupported" : exception.getName();
     }
 
     private static boolean isHidden(Member m) {
@@ -53,7 +79,8 @@ public final class CopiedPagesFace {
                 due(m + " is private", isHidden(m));
             }
         }
-        due("the methods are " + Arrays.toString(FACE), seen.equals(new TreeSet<>(Arrays.asList(FACE))));
+        due("the methods are " + Arrays.toString(FACE) + ", not " + seen,
+                seen.equals(new TreeSet<>(Arrays.asList(FACE))));
         for (Class<?> inside : c.getDeclaredClasses()) {
             due(inside + " is private and static",
                     Modifier.isPrivate(inside.getModifiers()) && Modifier.isStatic(inside.getModifiers()));
@@ -68,7 +95,9 @@ public final class CopiedPagesFace {
             due(f + " is private", isHidden(f) || f.getName().equals("NONE"));
             due(f + " is final if static", !Modifier.isStatic(f.getModifiers()) || Modifier.isFinal(f.getModifiers()));
         }
-        due("NONE is public", Modifier.isPublic(c.getField("NONE").getModifiers()));
+        Field none = c.getField("NONE");
+        due("NONE is a constant of int, -1", none.getType() == int.class && Modifier.isStatic(none.getModifiers())
+                && Modifier.isFinal(none.getModifiers()) && none.getInt(null) == -1);
         Constructor<?>[] made = c.getDeclaredConstructors();
         due("one constructor", made.length == 1 && made[0].getParameterCount() == 0
                 && Modifier.isPublic(made[0].getModifiers()));
