@@ -57,15 +57,12 @@ public final class CopiedPagesRules {
         due("no lambda", !code.contains("->"));
         due("no method reference", !code.contains("::"));
         due("no static block", !Pattern.compile("\\bstatic\\s*\\{").matcher(code).find());
-        due("no loop without a bound", !Pattern.compile("while\\s*\\(true\\)|for\\s*\\([^;]*;\\s*;").matcher(code).find());
+        Pattern endless = Pattern.compile("while\\s*\\(true\\)|for\\s*\\([^;]*;\\s*;");
+        due("no loop without a bound", !endless.matcher(code).find());
         each(code, "import ([\\w.]+);", IMPORTS, "rule 4, import");
-        each(code, "\\b((?:System|Arrays|Math|Integer|Long|List)\\.\\w+)", concat(LIBRARY, IMPORTS), "rule 4, library");
+        each(code, "(?<!\\.)\\b((?:System|Arrays|Math|Integer|Long|List)\\.\\w+)", LIBRARY, "rule 4, library");
         each(code, "\\bthrow new (\\w+)\\(", THROWN, "rule 6");
         each(code, "\\bthrow (\\w+)", List.of("new"), "rule 6");
-    }
-
-    private static List<String> concat(List<String> one, List<String> other) {
-        return java.util.stream.Stream.concat(one.stream(), other.stream()).toList();
     }
 
     /** Rows are made once: no method but a constructor makes an object, but for exceptions. */
